@@ -88,6 +88,7 @@ public final class FeedEndTest {
         Check.sizes("oops, told till the next read", x, 1, 0, 0, 0);
         Check.due("faultAt() before the next read", 0, x.faultAt());
         Check.due("read()", 0, x.read());
+        Check.due("faultAt() of a program read behind a fault", -1, x.faultAt());
         Check.sizes(TINY, x, 6, 1, 0, 0);
         Check.due("read() of nothing", 0, x.read());
         Check.sizes("nothing", x, 0, 0, 0, 0);

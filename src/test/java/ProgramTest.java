@@ -109,7 +109,7 @@ public final class ProgramTest {
             program("class A of B { field x " + type + " static m ( " + type + " ) " + type + " 0 { } }");
         }
         String[] wrong = {"i", "i[]", "in[]", "intt", "intt[]", "none", "none[]", "a", "a[]", "[]", "int[][]", "A[][]",
-            "A[", "A]", "A][", "Int.x", "1", CLASS_24 + "Y[]", "INT[", "int[]x"};
+            "A[x", "Ax]", "A[", "A]", "A][", "Int.x", "1", CLASS_24 + "Y[]", "INT[", "int[]x"};
         for (String type : wrong) {
             fault("class A of B { field x " + type + " }", 7);
         }
