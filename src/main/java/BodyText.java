@@ -339,7 +339,8 @@ public final class BodyText {
         }
 
         private static boolean isNamePart(int code) {
-            return code >= 'a' && code <= 'z' || code >= 'A' && code <= 'Z' || isDigit(code) || code == '_';
+            return code >= 'a' && code <= 'z' || code >= 'A' && code <= 'Z'
+                    || code >= '0' && code <= '9' || code == '_';
         }
 
         private static boolean isDigit(int code) {
@@ -552,6 +553,11 @@ public final class BodyText {
             if (take(COLON)) {
                 addLine(first, KIND_LABEL, NONE);
                 return true;
+            }
+            // Where the text ends a colon might still have come, so the kind stays open.
+            if (at >= tokens.count()) {
+                addLine(first, NONE, NONE);
+                return false;
             }
             if (tokens.kinds.hasAny(first, CATCH)) {
                 addLine(first, KIND_CATCH, NONE);

@@ -177,12 +177,13 @@ public final class OracleTest {
                     depth = 2;
                 }
             } else {
-                boolean label = t + 1 < tokens.size() && tokens.get(t + 1).equals(":");
+                boolean open = t + 1 == tokens.size();
+                boolean label = !open && tokens.get(t + 1).equals(":");
                 Check.due("lineAt(" + lines + ") of \"" + text + "\"", t, x.lineAt(lines));
                 Check.due("line(" + lines + ") of \"" + text + "\"",
-                        label ? 0 : word.equals("catch") ? 1 : operands(word) >= 0 ? 2 : -1, x.line(lines));
+                        open ? -1 : label ? 0 : word.equals("catch") ? 1 : operands(word) >= 0 ? 2 : -1, x.line(lines));
                 Check.due("an instruction(" + lines + ") of \"" + text + "\"",
-                        !label && operands(word) >= 0, x.instruction(lines++) >= 0);
+                        !open && !label && operands(word) >= 0, x.instruction(lines++) >= 0);
                 t += label ? 2 : word.equals("catch") ? 5 : 1 + Math.max(0, operands(word));
             }
         }

@@ -72,13 +72,13 @@ public final class PartsTest {
                 + "class E of A { static s ( ) none 0 { back } field g A[] }";
         BodyText x = Check.reading(text, 0, -1);
         Check.sizes(text, x, 47, 2, 4, 5);
-        answers("classAt", new int[] {1, 30}, x.classAt(0), x.classAt(1));
-        answers("member", new int[] {0, 2, 1, 0}, x.member(0), x.member(1), x.member(2), x.member(3));
-        answers("memberAt", new int[] {6, 9, 35, 44}, x.memberAt(0), x.memberAt(1), x.memberAt(2), x.memberAt(3));
+        Check.answers("classAt", new int[] {1, 30}, x.classAt(0), x.classAt(1));
+        Check.answers("member", new int[] {0, 2, 1, 0}, x.member(0), x.member(1), x.member(2), x.member(3));
+        Check.answers("memberAt", new int[] {6, 9, 35, 44}, x.memberAt(0), x.memberAt(1), x.memberAt(2), x.memberAt(3));
         kinds(text, x, 0, 2, 2, 1, 2);
-        answers("lineAt", new int[] {16, 18, 20, 22, 41}, x.lineAt(0), x.lineAt(1), x.lineAt(2), x.lineAt(3),
+        Check.answers("lineAt", new int[] {16, 18, 20, 22, 41}, x.lineAt(0), x.lineAt(1), x.lineAt(2), x.lineAt(3),
                 x.lineAt(4));
-        answers("instruction", new int[] {-1, 2, 19, -1, 43}, x.instruction(0), x.instruction(1), x.instruction(2),
+        Check.answers("instruction", new int[] {-1, 2, 19, -1, 43}, x.instruction(0), x.instruction(1), x.instruction(2),
                 x.instruction(3), x.instruction(4));
     }
 
@@ -92,10 +92,10 @@ public final class PartsTest {
         Check.sizes("field X", Check.reading("class A of B { field X int }", 2, 6), 9, 1, 0, 0);
         BodyText field = Check.reading("class A of B { field x", 2, 7);
         Check.sizes("field x", field, 7, 1, 1, 0);
-        answers("field x", new int[] {0, 6}, field.member(0), field.memberAt(0));
+        Check.answers("field x", new int[] {0, 6}, field.member(0), field.memberAt(0));
         BodyText routine = Check.reading("class A of B { field x int method m none", 2, 10);
         Check.sizes("method m none", routine, 11, 1, 2, 0);
-        answers("method m none", new int[] {2, 9}, routine.member(1), routine.memberAt(1));
+        Check.answers("method m none", new int[] {2, 9}, routine.member(1), routine.memberAt(1));
     }
 
     private static void faultsInLines() {
@@ -115,8 +115,8 @@ public final class PartsTest {
         Check.due("lineAt(0) of an unclear line", BODY_TOKENS, x.lineAt(0));
         Check.due("instruction(0) of an unclear line", -1, x.instruction(0));
         kinds("wrte at the end", Check.reading(BODY + "wrte", 2, BODY_TOKENS + 1), -1);
-        kinds("load at the end", Check.reading(BODY + "load", 2, BODY_TOKENS + 1), 2);
-        kinds("catch at the end", Check.reading(BODY + "catch", 2, BODY_TOKENS + 1), 1);
+        kinds("load at the end", Check.reading(BODY + "load", 2, BODY_TOKENS + 1), -1);
+        kinds("catch at the end", Check.reading(BODY + "catch", 2, BODY_TOKENS + 1), -1);
     }
 
     private static void faultyLine(String lines, int token, int... kinds) {
@@ -126,14 +126,14 @@ public final class PartsTest {
     private static void outside() {
         BodyText x = Check.reading(BODY + "back } }", 0, -1);
         for (int k : new int[] {-1, 1, 2, 16, 16000, Integer.MIN_VALUE, Integer.MAX_VALUE}) {
-            answers("outside at " + k, new int[] {-1, -1, -1, -1, -1, -1}, x.classAt(k), x.member(k), x.memberAt(k),
+            Check.answers("outside at " + k, new int[] {-1, -1, -1, -1, -1, -1}, x.classAt(k), x.member(k), x.memberAt(k),
                     x.line(k), x.lineAt(k), x.instruction(k));
         }
         // Rows are used again: nothing of a longer text may show behind a shorter one.
         Check.give(x, "class A of B { }");
         Check.due("read() of a shorter text", 0, x.read());
         Check.sizes("a shorter text", x, 6, 1, 0, 0);
-        answers("behind a shorter text", new int[] {-1, -1, -1, -1, -1, -1}, x.token(6, false), x.member(0),
+        Check.answers("behind a shorter text", new int[] {-1, -1, -1, -1, -1, -1}, x.token(6, false), x.member(0),
                 x.memberAt(0), x.line(0), x.lineAt(0), x.instruction(0));
     }
 
@@ -143,11 +143,5 @@ public final class PartsTest {
             Check.due("line(" + k + ") of " + text, want[k], x.line(k));
         }
         Check.due("line behind the last of " + text, -1, x.line(want.length));
-    }
-
-    private static void answers(String calls, int[] want, int... got) {
-        for (int i = 0; i < want.length; i++) {
-            Check.due(calls + ", answer " + i, want[i], got[i]);
-        }
     }
 }

@@ -34,7 +34,7 @@ public final class TokenTest {
             Check.due("token behind the last", -1, x.token(tokens[i], false));
         }
         BodyText x = Check.reading("ab (cd\u0080ef", 1, 3);
-        places("ab (cd", x, 0, 2, 3, 4, 4, 6);
+        Check.places("ab (cd", x, 0, 2, 3, 4, 4, 6);
     }
 
     private static void faultOfByteBeforeFaultOfToken() {
@@ -47,19 +47,19 @@ public final class TokenTest {
     }
 
     private static void cutting() {
-        places("ab", read("ab"), 0, 2);
-        places(" ab ", read(" ab "), 1, 3);
-        places("a(b", read("a(b"), 0, 1, 1, 2, 2, 3);
-        places("(){}:", read("(){}:"), 0, 1, 1, 2, 2, 3, 3, 4, 4, 5);
-        places("a\tb\nc\rd", read("a\tb\nc\rd"), 0, 1, 2, 3, 4, 5, 6, 7);
-        places("a;b{c\nd", read("a;b{c\nd"), 0, 1, 6, 7);
-        places("a;b\rc\nd", read("a;b\rc\nd"), 0, 1, 6, 7);
-        places("a;b;c\n;\nd", read("a;b;c\n;\nd"), 0, 1, 8, 9);
-        places("a ;", read("a ;"), 0, 1);
-        places("!\"#$%&'*+,-./<=>?@[\\]^_`|~", read("!\"#$%&'*+,-./<=>?@[\\]^_`|~"), 0, 26);
-        places("", read(""));
-        places("; only a remark", read("; only a remark"));
-        places("x", read("x".repeat(300)), 0, 300);
+        Check.places("ab", read("ab"), 0, 2);
+        Check.places(" ab ", read(" ab "), 1, 3);
+        Check.places("a(b", read("a(b"), 0, 1, 1, 2, 2, 3);
+        Check.places("(){}:", read("(){}:"), 0, 1, 1, 2, 2, 3, 3, 4, 4, 5);
+        Check.places("a\tb\nc\rd", read("a\tb\nc\rd"), 0, 1, 2, 3, 4, 5, 6, 7);
+        Check.places("a;b{c\nd", read("a;b{c\nd"), 0, 1, 6, 7);
+        Check.places("a;b\rc\nd", read("a;b\rc\nd"), 0, 1, 6, 7);
+        Check.places("a;b;c\n;\nd", read("a;b;c\n;\nd"), 0, 1, 8, 9);
+        Check.places("a ;", read("a ;"), 0, 1);
+        Check.places("!\"#$%&'*+,-./<=>?@[\\]^_`|~", read("!\"#$%&'*+,-./<=>?@[\\]^_`|~"), 0, 26);
+        Check.places("", read(""));
+        Check.places("; only a remark", read("; only a remark"));
+        Check.places("x", read("x".repeat(300)), 0, 300);
     }
 
     private static void outsideTheTokens() {
@@ -77,13 +77,5 @@ public final class TokenTest {
         BodyText x = Check.given(text);
         x.read();
         return x;
-    }
-
-    private static void places(String text, BodyText x, int... want) {
-        Check.due("size(0) of \"" + text + "\"", want.length / 2, x.size(0));
-        for (int i = 0; i < want.length; i++) {
-            String call = "token(" + i / 2 + ", " + (i % 2 == 1) + ") of \"" + text + "\"";
-            Check.due(call, want[i], x.token(i / 2, i % 2 == 1));
-        }
     }
 }
