@@ -233,7 +233,8 @@ public final class BodyText {
         boolean cut() {
             clear();
             boolean remark = false;
-            for (int i = 0; i < text.length; i++) {
+            int length = text.length;
+            for (int i = 0; i < length; i++) {
                 int code = text.at(i);
                 if (!isAllowed(code)) {
                     endWord(i);
@@ -250,7 +251,7 @@ public final class BodyText {
                     wordStart = i;
                 }
             }
-            endWord(text.length);
+            endWord(length);
             return true;
         }
 
@@ -534,7 +535,8 @@ public final class BodyText {
                 return false;
             }
             boolean more = true;
-            for (int i = at; i < tokens.count() && more; i++) {
+            int count = tokens.count();
+            for (int i = at; i < count && more; i++) {
                 more = take(TYPE);
             }
             if (!take(CLOSE) || !take(RESULT) || !take(NUMBER) || !take(BEGIN)) {
